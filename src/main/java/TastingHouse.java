@@ -560,26 +560,22 @@ public final class TastingHouse {
             int statements = 0;
             readToken();
             for (int i = 0; i < TAPE_BYTES && fault == 0 && kind != ENDED; i++) {
-                readStatement();
+                switch (word) {
+                    case PRODUCT: readProduct(); break;
+                    case TRIANGLE: readTrial(true); break;
+                    case PAIR: readTrial(false); break;
+                    case LOOK: readLook(); break;
+                    case TIES: readTies(); break;
+                    case SCALE: readScale(); break;
+                    case REFERENCE: readReference(); break;
+                    case CLAIM: readClaim(); break;
+                    default: fail(NO_PLAN_GOES_ON, start); break;
+                }
                 expectSign(';');
                 statements++;
             }
             length = 0;
             return fault == 0 ? statements : NONE;
-        }
-
-        private void readStatement() {
-            switch (word) {
-                case PRODUCT: readProduct(); break;
-                case TRIANGLE: readTrial(true); break;
-                case PAIR: readTrial(false); break;
-                case LOOK: readLook(); break;
-                case TIES: readTies(); break;
-                case SCALE: readScale(); break;
-                case REFERENCE: readReference(); break;
-                case CLAIM: readClaim(); break;
-                default: fail(NO_PLAN_GOES_ON, start); break;
-            }
         }
 
         private void readProduct() {

@@ -7,6 +7,7 @@ public final class PlanTest {
         newObject();
         tape();
         planAndSeed();
+        plansOneByOne();
         statements();
         blanks();
         faultsOfWords();
@@ -67,7 +68,6 @@ public final class PlanTest {
         Check.due("seed below 0", house.plan(-1), -2);
         Check.due("seed least", house.plan(Integer.MIN_VALUE), -2);
         Check.due("the tape stays", house.end(1), true);
-        Check.write(new TastingHouse(), "");
         house.end(0);
         Check.write(house, TRIANGLE + "pair a against b;");
         Check.due("greatest seed", house.plan(Integer.MAX_VALUE), 4);
@@ -102,6 +102,25 @@ public final class PlanTest {
         told.plan(0);
         told.answer(0, 0, 0);
         Check.due("as is NONE with a plan", told.all(4), 1);
+    }
+
+    /** Nothing of a plan is left when others have come. */
+    private static void plansOneByOne() {
+        TastingHouse house = Check.planned(0, TRIANGLE + "look 5 below 1 in 1;look 6 below 1 in 1;ties half;scale own;"
+            + "reference b;claim c when 1=1;", 9);
+        for (int i = 0; i < 3; i++) {
+            Check.write(house, TWO + "pair a against b;");
+            Check.due("next plan", house.plan(1), 3);
+            Check.due("its looks", house.all(6), 0);
+            Check.due("its claims", house.all(2), 0);
+            house.answer(0, 0, 0);
+            house.score(0, 0, 1, 10);
+            house.score(0, 1, 1, 30);
+            Check.due("ties drop at first", house.answers(0), 0);
+            house.open();
+            Check.due("scale raw at first", house.scored(0, 0, 1), 100);
+            Check.due("no reference at first", house.drift(1), 0);
+        }
     }
 
     private static void statements() {
@@ -211,6 +230,8 @@ public final class PlanTest {
         Check.planned(0, "claim c when ((((((1))))))=((((((2))))));", 1);
         Check.planned(0, "claim c when not not not not not not 1=1 and not not not not not not 1=1;", 1);
         Check.planned(0, "claim c when [[[not not (1)=1]]];", 1);
+        Check.planned(0, "claim c when [1=1]and[1=1]and[1=1]and[1=1]and[1=1]and[1=1]and[1=1];", 1);
+        Check.planned(0, "claim c when (1)+(1)+(1)+(1)+(1)+(1)+(1)=7 or max(1,2)=min(1,2);", 1);
         faulty("claim c when (((((((1)))))))=1;", 4, 19);
         faulty("claim c when not not not not not not not 1=1;", 4, 37);
         faulty("claim c when [[[not not not (1)=1]]];", 4, 28);
@@ -246,6 +267,7 @@ public final class PlanTest {
         Check.due("plan of " + text, house.plan(0), TastingHouse.NONE);
         Check.due("fault of " + text, house.fault(0), fault);
         Check.due("place of " + text, house.fault(1), place);
+        Check.due("nothing else of " + text, house.fault(2), TastingHouse.NONE);
     }
 
     private static void faultLeavesPlan() {
@@ -279,6 +301,9 @@ public final class PlanTest {
         for (int seed = 0; seed < 40; seed++) {
             codesBySeed(seed * 53687091);
         }
+        // By these a code behind 999 is sought.
+        codesBySeed(177);
+        codesBySeed(490);
     }
 
     private static void codesBySeed(int seed) {
