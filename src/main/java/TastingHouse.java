@@ -108,14 +108,18 @@ public final class TastingHouse {
     private int toldAt;
 
     public TastingHouse() {
-        current = new Plan();
+        Ledger acts = new Ledger();
+        Chances odds = new Chances();
+        Tasting answered = new Tasting(acts, odds);
+        ScoreSheet scores = new ScoreSheet(acts);
+        ledger = acts;
+        chances = odds;
+        tasting = answered;
+        sheet = scores;
+        judge = new Judge(answered, scores);
         reader = new Reader(new Plan());
-        ledger = new Ledger();
-        chances = new Chances();
-        tasting = new Tasting(ledger, chances);
-        sheet = new ScoreSheet(ledger);
-        judge = new Judge(tasting, sheet);
         servings = new Servings();
+        current = new Plan();
         planned = false;
         opened = false;
         toldAt = NONE;
@@ -371,9 +375,9 @@ public final class TastingHouse {
         int products;
         int trials;
         int claims;
-        int ties;
+        int ties = DROP;
         boolean ownScale;
-        int reference;
+        int reference = NONE;
         int stepCount;
         /** Products' names stand ahead, claims' behind PRODUCTS. */
         final long[] names = new long[PRODUCTS + CLAIMS];
