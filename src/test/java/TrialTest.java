@@ -37,20 +37,10 @@ public final class TrialTest {
         }
     }
 
-    /** The place of the odd cup in a triangle, of the first product in a pair. */
-    private static int rightPlace(boolean triangle, int taster) {
-        return triangle ? new int[] {2, 1, 0, 2, 1, 0}[taster % 6] : taster % 2;
-    }
-
-    private static void answer(TastingHouse house, boolean triangle, int taster, boolean right) {
-        int place = rightPlace(triangle, taster);
-        house.answer(0, taster, house.code(0, taster, right ? place : (place + 1) % (triangle ? 3 : 2)));
-    }
-
     private static void ties(String how, int n, int k, int shut) {
         TastingHouse house = house("pair", "ties lose;ties " + how + ";", 5);
-        answer(house, false, 0, true);
-        answer(house, false, 1, false);
+        Edge.answer(house, false, 0, true);
+        Edge.answer(house, false, 1, false);
         house.answer(0, 2, 0);
         house.answer(0, 3, 0);
         house.answer(0, 4, 0);
@@ -69,7 +59,7 @@ public final class TrialTest {
         // 3 of 3 in triangles: 1 / 27, not below 1 / 27; 4 of 4: 1 / 81, below 13 / 1000.
         TastingHouse house = house("triangle", "look 3 below 1 in 27;look 4 below 13 in 1000;look 6 below 1 in 1;", 6);
         for (int taster = 0; taster < 7; taster++) {
-            answer(house, true, taster, taster != 4);
+            Edge.answer(house, true, taster, taster != 4);
         }
         Check.due("all answers", house.answers(0), 7);
         house.open();
@@ -94,10 +84,10 @@ public final class TrialTest {
         String look = "look 2 below 1 in 2;";
         for (String how : new String[] {"drop", "lose", "half"}) {
             TastingHouse house = house("pair", "ties " + how + ";" + look, 5);
-            answer(house, false, 0, true);
+            Edge.answer(house, false, 0, true);
             house.answer(0, 1, 0);
-            answer(house, false, 2, true);
-            answer(house, false, 3, false);
+            Edge.answer(house, false, 2, true);
+            Edge.answer(house, false, 3, false);
             house.open();
             boolean drop = how.equals("drop");
             Check.due(how + " stops", house.trial(0, 5), drop ? 1 : 0);
@@ -110,7 +100,7 @@ public final class TrialTest {
     private static void spoilt() {
         TastingHouse house = house("triangle", "look 2 below 1 in 3;", 4);
         for (int taster = 0; taster < 4; taster++) {
-            answer(house, true, taster, true);
+            Edge.answer(house, true, taster, true);
         }
         house.open();
         Check.due("stops", house.trial(0, 5), 1);
@@ -173,7 +163,7 @@ public final class TrialTest {
     private static void greatestChance() {
         TastingHouse house = house("triangle", "", 3);
         for (int taster = 0; taster < 30; taster++) {
-            answer(house, true, taster, taster == 0);
+            Edge.answer(house, true, taster, taster == 0);
         }
         house.open();
         Check.due("above", house.chance(0, true), 205891132094649L - (1L << 30));
@@ -228,7 +218,7 @@ public final class TrialTest {
             for (int k = 0; k <= n; k++) {
                 TastingHouse house = house(triangle ? "triangle" : "pair", "", 3);
                 for (int taster = 0; taster < n; taster++) {
-                    answer(house, triangle, taster, taster < k);
+                    Edge.answer(house, triangle, taster, taster < k);
                 }
                 house.open();
                 Check.due("least of " + k + " of " + n, house.trial(0, 7), Model.least(triangle, k, n));
