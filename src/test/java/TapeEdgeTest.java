@@ -17,6 +17,8 @@ public final class TapeEdgeTest {
         tapeGoes();
         faultLeavesAll();
         planBeginsAnew();
+        codesOfLaterPlans();
+        testsOfLaterPlans();
         faultOfLatestText();
         faultOfOthers();
         lastPromisedCall();
@@ -136,6 +138,23 @@ public final class TapeEdgeTest {
         Check.due("cut", house.end(10), true);
         Check.due("behind the cut", house.feed(BLANKS, BLANKS, BLANKS, BLANKS, BLANKS), 30);
         Check.due("what was cut is gone", house.plan(0), 1);
+        cut("product a;product ^a", "b;", 3);
+        cut("product a^", "bcdefgh;", 1);
+        cut("ties half^", "s;", 1);
+        cut("ties ^hal", "f;", 1);
+        cut(Edge.PAIR + "look 3^", "1 below 1 in 2;", 1);
+        cut("claim c when 1=1000^", "0;", 1);
+    }
+
+    /** What stood on the tape behind its end is no part of its last word or number. */
+    private static void cut(String marked, String behind, int fault) {
+        String text = marked.replace("^", "");
+        TastingHouse house = new TastingHouse();
+        Check.write(house, text + behind);
+        Check.due("cut to " + text, house.end(text.length()), true);
+        Check.due("plan of " + text, house.plan(0), -1);
+        Check.due("fault of " + text, house.fault(0), fault);
+        Check.due("place of " + text, house.fault(1), marked.indexOf('^'));
     }
 
     /** "a seed (0 .. 2147483647)" */
@@ -196,6 +215,8 @@ public final class TapeEdgeTest {
         Edge.faulty(1, text + "^?");
         text.setLength(690);
         Edge.faulty(1, text + "product   ^");
+        Edge.faulty(1, text + "product aa^");
+        Edge.faulty(1, text + "ties ^12345");
     }
 
     /** "The tape (it goes)": with a fault and without. */
@@ -246,11 +267,48 @@ public final class TapeEdgeTest {
         Check.due("as() is NONE", house.all(4), 1);
         Check.due("an old act is none such", house.as(9), false);
         Check.due("nor can it be void", house.annul(9), -1);
-        Check.due("what was void is not", house.answer(0, 1, house.code(0, 1, 0)), 2);
+        Check.due("another", house.answer(0, 1, house.code(0, 1, 0)), 2);
         Check.due("opens again", house.open(), true);
         Check.due("act 2 counts", house.trial(0, 3), 1);
         Check.due("no swap is left", house.inside(0, house.code(0, 0, 0)), 1);
         Check.due("no score is left", house.mean(0), -1000000);
+        Check.due("act 2 was VOID under the old plan, and may be so now", house.annul(2), 3);
+        Check.due("then it does not count", house.trial(0, 3), 0);
+    }
+
+    /** The codes of a plan that comes behind others are those that it would have by itself. */
+    private static void codesOfLaterPlans() {
+        TastingHouse house = new TastingHouse();
+        String[] texts = {Edge.TRIANGLE + "triangle a against b;", Edge.PAIR, Edge.TRIANGLE, Edge.PAIR + "triangle b against a;"};
+        for (int i = 0; i < 8; i++) {
+            String text = texts[i % texts.length];
+            int statements = text.split(";").length;
+            Check.write(house, text);
+            Check.due("plan " + i, house.plan(1000 + i), statements);
+            TastingHouse alone = Check.planned(1000 + i, text, statements);
+            for (int cup = 40; cup < 90; cup += 7) {
+                int trial = statements - 3;
+                Check.due("plan " + i + " cup " + cup, house.code(trial, cup / 3, cup % 3), alone.code(trial, cup / 3, cup % 3));
+            }
+        }
+    }
+
+    /** Tests of earlier plans take no room from those of later ones. */
+    private static void testsOfLaterPlans() {
+        TastingHouse house = new TastingHouse();
+        for (int i = 0; i < 10; i++) {
+            StringBuilder text = new StringBuilder("claim a when 0=1;claim b when 0");
+            for (int parts = 0; parts < 200; parts++) {
+                text.append("+1");
+            }
+            text.append(i % 2 == 0 ? "=200;" : "=199;").append("claim c when 1=").append(i % 3).append(';');
+            Check.write(house, text.toString());
+            Check.due("plan " + i, house.plan(0), 3);
+            house.open();
+            Check.due("the first of plan " + i, house.claim(0), 0);
+            Check.due("the second of plan " + i, house.claim(1), i % 2 == 0 ? 1 : 0);
+            Check.due("the last of plan " + i, house.claim(2), i % 3 == 1 ? 1 : 0);
+        }
     }
 
     /** "Of the latest plan() that read a text: its FAULT (0; 0 without, and ahead of any), its place (1; NONE without)." */

@@ -9,6 +9,7 @@ public final class TrialEdgeTest {
         trialRefused();
         chanceRefused();
         noAnswers();
+        eachTrialByItself();
         spoiltTriangles();
         spoiltPairs();
         tiesAtFirstAndLast();
@@ -127,6 +128,31 @@ public final class TrialEdgeTest {
             Check.due("no answers: above", house.chance(0, true), 1);
             Check.due("no answers: below", house.chance(0, false), 1);
         }
+    }
+
+    /** Four trials of two kinds, each with answers, looks and swaps of its own, asked in turns. */
+    private static void eachTrialByItself() {
+        TastingHouse house = new TastingHouse();
+        Check.write(house, Edge.TWO + "triangle a against b;look 2 below 1 in 8;pair a against b;look 1 below 1 in 2;"
+            + "look 3 below 1 in 7;triangle b against a;pair b against a;look 2 below 1 in 3;");
+        Check.due("plan", house.plan(5), 10);
+        for (int taster = 0; taster < 4; taster++) {
+            house.answer(0, taster, house.code(0, taster, new int[] {2, 1, 0, 2}[taster]));
+            house.answer(1, taster, house.code(1, taster, taster % 2));
+            house.answer(3, taster, house.code(3, taster, 0));
+        }
+        house.open();
+        long[][] want = {{2, 1, 1, 9}, {3, 2, 1, 8}, {0, 0, 1, 1}, {4, 0, 11, 16}};
+        for (int turn = 0; turn < 8; turn++) {
+            int trial = turn * 3 % 4;
+            Check.due("above " + trial, house.chance(trial, true), want[trial][2]);
+            Check.due("below " + trial, house.chance(trial, false), want[trial][3]);
+            Check.due("N " + trial, house.trial(trial, 3), want[trial][0]);
+            Check.due("look " + trial, house.trial(trial, 5), want[trial][1]);
+        }
+        house.swap(2, house.code(2, 0, 0), house.code(2, 0, 2));
+        Check.due("a swap in another trial", house.inside(0, house.code(0, 0, 0)), 1);
+        Check.due("and in its own", house.inside(2, house.code(2, 0, 0)), 2);
     }
 
     /** "A triangle without just one odd cup is SPOILT (its ANSWER counts for nothing ..)" */
