@@ -1,3 +1,4 @@
+import java.util.ArrayList;
 import java.util.Arrays;
 import java.util.List;
 
@@ -36,6 +37,8 @@ public final class LanguageEdgeTest {
         closedOnesAreNotOpen();
         textEndsTooSoon();
         wrongTokenEverywhere();
+        statementsCutShort();
+        everyTokenEverywhere();
         wordsWholeAtTheirFirstByte();
         firstFaultAlongTheText();
         Check.end();
@@ -476,6 +479,58 @@ public final class LanguageEdgeTest {
                 }
             }
         }
+    }
+
+    /** A ; where something else is asked. */
+    private static void statementsCutShort() {
+        for (String cut : new String[] {"^;", "ties ^;", "scale ^;", "product ^;", "reference ^;", "pair ^;", "triangle ^;",
+            "claim ^;", "claim c ^;", "claim c when ^;", "claim c when 1 ^;", "claim c when 1= ^;", "claim c when 1+ ^;",
+            "claim c when 1=1* ^;", "claim c when not ^;", "claim c when [ ^;", "claim c when [1=1 ^;", "claim c when 1=1 or ^;",
+            "claim c when 1=1 and ^;", "claim c when ( ^;", "claim c when (1 ^;", "claim c when (1) ^;", "claim c when min ^;",
+            "claim c when min( ^;", "claim c when min(1 ^;", "claim c when max(1, ^;", "claim c when max(1,2 ^;",
+            "claim c when stopped ^;", "claim c when right ^;", "claim c when mean ^;", "claim c when drift ^;"}) {
+            Edge.faulty(1, cut);
+            Edge.faulty(1, cut.replace(" ^", "^"));
+        }
+        for (String cut : new String[] {"pair a^;", "pair a against^;", "triangle b^;", "triangle b against^;"}) {
+            Edge.faulty(1, Edge.TWO + cut);
+        }
+        for (String cut : new String[] {"look^;", "look 5^;", "look 5 below^;", "look 5 below 1^;", "look 5 below 1 in^;"}) {
+            Edge.faulty(1, Edge.PAIR + cut);
+        }
+    }
+
+    /** Each word and sign at each place of some plans, held against the second reading of the grammar. */
+    private static void everyTokenEverywhere() {
+        List<String> all = new ArrayList<>(OWN_WORDS);
+        all.addAll(List.of("a", "b", "c", "x", "abcdef", "abcdefg", "productx", "0", "1", "9", "10", "30", "31", "1000", "1001",
+            "9999", "10000", ";", ",", "(", ")", "[", "]", "<", ">", "=", "+", "-", "*", "/", "?", "( (", "not not", "1 = 1"));
+        for (String[] tokens : PLANS) {
+            for (int count = 0; count <= tokens.length; count++) {
+                for (String token : all) {
+                    asModel(joined(tokens, count) + " " + token);
+                    asModel(joined(tokens, count) + " " + token + " ?");
+                }
+            }
+        }
+    }
+
+    private static void asModel(String text) {
+        TastingHouse house = new TastingHouse();
+        Check.write(house, text);
+        int statements = house.plan(0);
+        ModelPlan plan = new ModelPlan();
+        int fault = 0;
+        int place = -1;
+        try {
+            plan.read(text);
+        } catch (ModelPlan.Fault found) {
+            fault = found.kind;
+            place = found.place;
+        }
+        Check.due("plan of " + text, statements, fault == 0 ? plan.statements : -1);
+        Check.due("fault of " + text, house.fault(0), fault);
+        Check.due("place of " + text, house.fault(1), place);
     }
 
     /** "(words and numbers whole, at their first byte ..)" */

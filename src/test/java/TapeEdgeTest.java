@@ -19,6 +19,7 @@ public final class TapeEdgeTest {
         planBeginsAnew();
         codesOfLaterPlans();
         testsOfLaterPlans();
+        namesOfLaterPlans();
         faultOfLatestText();
         faultOfOthers();
         lastPromisedCall();
@@ -217,6 +218,21 @@ public final class TapeEdgeTest {
         Edge.faulty(1, text + "product   ^");
         Edge.faulty(1, text + "product aa^");
         Edge.faulty(1, text + "ties ^12345");
+        lastWords();
+    }
+
+    /** A text may end at the tape's last byte amid a word that begins as an OWN WORD does, or with one. */
+    private static void lastWords() {
+        for (String word : new String[] {"product", "triangle", "ties", "reference", "claim", "look", "scale", "pair"}) {
+            for (int letters = 1; letters <= word.length(); letters++) {
+                String blanks = " ".repeat(700 - letters);
+                boolean asked = letters == word.length() && !word.equals("look");
+                Edge.faulty(1, asked ? blanks + word + "^" : blanks + "^" + word.substring(0, letters));
+            }
+        }
+        Edge.faulty(1, " ".repeat(692) + "ties ^hal");
+        Edge.faulty(1, " ".repeat(691) + "ties half^");
+        Edge.goes(" ".repeat(690) + "ties half;", 1);
     }
 
     /** "The tape (it goes)": with a fault and without. */
@@ -291,6 +307,29 @@ public final class TapeEdgeTest {
                 Check.due("plan " + i + " cup " + cup, house.code(trial, cup / 3, cup % 3), alone.code(trial, cup / 3, cup % 3));
             }
         }
+    }
+
+    /** The names of earlier plans, all that there can be, are free and no products' any more. */
+    private static void namesOfLaterPlans() {
+        String products = "product a;product b;product c;product d;product e;product f;";
+        StringBuilder claims = new StringBuilder();
+        for (char name = 's'; name < 's' + 8; name++) {
+            claims.append("claim ").append(name).append(" when 1=1;");
+        }
+        TastingHouse house = new TastingHouse();
+        for (char name : "abcdefstuvwxyz".toCharArray()) {
+            house = Check.planned(0, products + claims, 14);
+            Check.write(house, products + claims);
+            Check.due("the same once more", house.plan(0), 14);
+            Check.write(house, "claim " + name + " when 1=1;");
+            Check.due("a claim " + name, house.plan(0), 1);
+            Check.write(house, "product " + name + ";");
+            Check.due("a product " + name, house.plan(0), 1);
+            Check.write(house, "product g;reference " + name + ";");
+            Check.due("no product " + name, house.plan(0), -1);
+            Check.due("no product " + name, house.fault(0), 3);
+        }
+        Check.due("the last that went", house.all(0), 1);
     }
 
     /** Tests of earlier plans take no room from those of later ones. */

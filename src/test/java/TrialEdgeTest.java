@@ -17,6 +17,7 @@ public final class TrialEdgeTest {
         chanceIsBelow();
         looksAtTheirAnswers();
         fiveLooks();
+        looksOfTheirTrialOnly();
         tieThatDrops();
         laterAnswersDontCount();
         roundedUp();
@@ -294,6 +295,49 @@ public final class TrialEdgeTest {
             Check.due("first right one behind " + wrong, house.trial(0, 5), wrong < 5 ? wrong + 1 : 0);
             Check.due("N", house.trial(0, 3), wrong < 5 ? wrong + 1 : 6);
         }
+    }
+
+    /** Neither the looks of the next trial nor those of an earlier plan are looked at. */
+    private static void looksOfTheirTrialOnly() {
+        String never = "look 1 below 1 in 1000;look 2 below 1 in 1000;look 3 below 1 in 1000;look 4 below 1 in 1000;"
+            + "look 5 below 1 in 1000;";
+        String always = "look 6 below 1 in 1;";
+        TastingHouse house = answered(false, never + "pair a against b;" + always, 6, 8);
+        house.open();
+        Check.due("five looks, none stops", house.trial(0, 5), 0);
+        Check.due("all count", house.trial(0, 3), 8);
+        house = answered(false, "pair a against b;" + always, 6, 8);
+        house.open();
+        Check.due("no looks", house.trial(0, 5), 0);
+        for (int plan = 0; plan < 4; plan++) {
+            house.end(0);
+            Check.write(house, Edge.PAIR + (plan % 4 < 2 ? "look 1 below 1 in 1000;" + always : "look 1 below 1 in 1000;"));
+            Check.due("a plan", house.plan(11) > 0, true);
+            for (int taster = 0; taster < 8; taster++) {
+                Edge.answer(house, false, taster, true);
+            }
+            house.open();
+            Check.due("plan " + plan, house.trial(0, 5), plan < 2 ? 2 : 0);
+            Check.due("plan " + plan, house.trial(0, 3), plan < 2 ? 6 : 8);
+        }
+        fourTimesFiveLooks();
+    }
+
+    private static void fourTimesFiveLooks() {
+        StringBuilder text = new StringBuilder(Edge.TWO);
+        for (int trial = 0; trial < 4; trial++) {
+            text.append("pair a against b;");
+            for (int look = 1; look <= 5; look++) {
+                text.append("look ").append(look).append(" below 1 in 999;");
+            }
+        }
+        TastingHouse house = Check.planned(3, text.toString(), 26);
+        for (int taster = 0; taster < 9; taster++) {
+            house.answer(3, taster, house.code(3, taster, taster % 2));
+        }
+        house.open();
+        Check.due("the last look of the last trial", house.trial(3, 5), 0);
+        Check.due("all count", house.trial(3, 0), 9);
     }
 
     /** "as soon as N is so many (a tie that drops makes it no more)" */
